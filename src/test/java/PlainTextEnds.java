@@ -175,15 +175,12 @@ final class PlainTextEnds {
         return parts.size();
     }
 
-    // All parts of a long text are too many to keep: only those are counted that did not stand earlier.
+    // All parts of a long text are too many to keep: of each end only those are counted that the end
+    // before it does not begin with.
     private int differentPartsOfALongText() {
         int parts = 0;
-        for (int from = 0; from < text.length(); from++) {
-            int known = 0;
-            for (int earlier = 0; earlier < from; earlier++) {
-                known = Math.max(known, common(earlier, from));
-            }
-            parts += text.length() - from - known;
+        for (int i = 0; i < order.size(); i++) {
+            parts += text.length() - order.get(i) - Math.max(0, lcp(i));
         }
         return parts;
     }

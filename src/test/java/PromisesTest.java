@@ -1,3 +1,5 @@
+import java.util.Arrays;
+
 /** One method for each promise of the document: ordinary inputs, the edges that it names, wrong inputs. */
 public final class PromisesTest {
     private static final int FEW = Integer.MIN_VALUE;
@@ -73,9 +75,9 @@ public final class PromisesTest {
         Check.due("1: room of " + maxText, ends.count(3), text);
         Check.due("1: sigma of " + sigma, ends.count(4), letters);
         Check.due("1: room for the pattern of " + maxPattern, ends.count(5), pattern);
-        for (int i = 0; i < text; i++) {
-            Check.due("1: feed in the room", ends.feed(letters - 1), true);
-        }
+        int[] full = new int[text];
+        Arrays.fill(full, letters - 1);
+        Check.due("1: letters in the room", Packed.feed(ends, full), text);
         Check.due("1: feed beyond the room", ends.feed(0), false);
         for (int i = 0; i < pattern; i++) {
             Check.due("1: patFeed in the room", ends.patFeed(letters - 1), true);

@@ -17,9 +17,11 @@ public final class RoomTest {
         long[] asMade = sizes(ends);
         Check.due("few objects", asMade[0] <= OBJECTS, true);
         Check.due("few elements", asMade[1] <= ELEMENTS, true);
-        for (int i = 0; i < 1000; i++) {
-            ends.feed(i * i % 7);
+        int[] letters = new int[1000];
+        for (int i = 0; i < letters.length; i++) {
+            letters[i] = i * i % 7;
         }
+        Packed.feed(ends, letters);
         ends.build();
         ends.patFeed(1);
         ends.search();
