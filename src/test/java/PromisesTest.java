@@ -28,32 +28,6 @@ public final class PromisesTest {
         Check.end();
     }
 
-    private static TextEnds fed(String word) {
-        TextEnds ends = new TextEnds(1000, 26, 64);
-        for (int i = 0; i < word.length(); i++) {
-            Check.due("feed of " + word, ends.feed(word.charAt(i) - 'a'), true);
-        }
-        return ends;
-    }
-
-    private static TextEnds built(String word) {
-        TextEnds ends = fed(word);
-        Check.due("build of " + word, ends.build(), word.length());
-        return ends;
-    }
-
-    private static void patFeedAll(TextEnds ends, String word) {
-        for (int i = 0; i < word.length(); i++) {
-            Check.due("patFeed of " + word, ends.patFeed(word.charAt(i) - 'a'), true);
-        }
-    }
-
-    private static int searched(String text, String pattern) {
-        TextEnds ends = built(text);
-        patFeedAll(ends, pattern);
-        return ends.search();
-    }
-
     private static void promise1NewObject() {
         TextEnds ends = new TextEnds(40, 26, 8);
         Check.due("1: letters", ends.count(0), 0);
@@ -169,7 +143,7 @@ public final class PromisesTest {
     }
 
     private static void promise5Sa() {
-        TextEnds ends = fed("mississippi");
+        TextEnds ends = Words.fed("mississippi");
         Check.due("5: not built", ends.sa(0), -1);
         ends.build();
         int[] due = {10, 7, 4, 1, 0, 9, 8, 6, 3, 5, 2};
@@ -182,11 +156,11 @@ public final class PromisesTest {
         }
         ends.feed(0);
         Check.due("5: not built any more", ends.sa(0), -1);
-        Check.due("5: empty text", built("").sa(0), -1);
+        Check.due("5: empty text", Words.built("").sa(0), -1);
     }
 
     private static void promise6Lcp() {
-        TextEnds ends = fed("mississippi");
+        TextEnds ends = Words.fed("mississippi");
         Check.due("6: not built", ends.lcp(1), -1);
         ends.build();
         int[] due = {-1, 1, 1, 4, 0, 0, 1, 0, 2, 1, 3};
@@ -199,12 +173,12 @@ public final class PromisesTest {
         }
         ends.feed(0);
         Check.due("6: not built any more", ends.lcp(1), -1);
-        Check.due("6: one letter", built("a").lcp(1), -1);
-        Check.due("6: one letter, place 0", built("a").lcp(0), -1);
+        Check.due("6: one letter", Words.built("a").lcp(1), -1);
+        Check.due("6: one letter, place 0", Words.built("a").lcp(0), -1);
     }
 
     private static void promise7Rank() {
-        TextEnds ends = fed("mississippi");
+        TextEnds ends = Words.fed("mississippi");
         Check.due("7: not built", ends.rank(0), -1);
         ends.build();
         int[] due = {4, 3, 10, 8, 2, 9, 7, 1, 6, 5, 0};
@@ -220,7 +194,7 @@ public final class PromisesTest {
     }
 
     private static void promise8Common() {
-        TextEnds ends = fed("mississippi");
+        TextEnds ends = Words.fed("mississippi");
         Check.due("8: not built", ends.common(0, 0), -1);
         ends.build();
         Check.due("8: common(1, 4)", ends.common(1, 4), 4);
@@ -262,38 +236,38 @@ public final class PromisesTest {
     }
 
     private static void promise10PatClear() {
-        TextEnds ends = built("abab");
+        TextEnds ends = Words.built("abab");
         ends.patClear();
         Check.due("10: empty", ends.count(1), 0);
-        patFeedAll(ends, "ba");
+        Words.patFeed(ends, "ba");
         Check.due("10: search", ends.search(), 1);
         ends.patClear();
         Check.due("10: empty again", ends.count(1), 0);
         Check.due("10: the text is as it was", ends.count(0), 4);
         Check.due("10: and built", ends.count(2), 1);
         Check.due("10: search of the empty one", ends.search(), 4);
-        patFeedAll(ends, "a");
+        Words.patFeed(ends, "a");
         Check.due("10: search of a new one", ends.search(), 2);
     }
 
     private static void promise11Search() {
-        TextEnds ends = fed("mississippi");
+        TextEnds ends = Words.fed("mississippi");
         Check.due("11: not built", ends.search(), -1);
         ends.build();
         Check.due("11: the empty one", ends.search(), 11);
-        Check.due("11: the empty one in nothing", searched("", ""), 0);
-        Check.due("11: a letter in nothing", searched("", "a"), 0);
-        Check.due("11: i", searched("mississippi", "i"), 4);
-        Check.due("11: ss", searched("mississippi", "ss"), 2);
-        Check.due("11: issi, over itself", searched("mississippi", "issi"), 2);
-        Check.due("11: the whole", searched("mississippi", "mississippi"), 1);
-        Check.due("11: longer than the text", searched("aaa", "aaaa"), 0);
-        Check.due("11: before all", searched("mississippi", "a"), 0);
-        Check.due("11: behind all", searched("mississippi", "z"), 0);
-        Check.due("11: between", searched("mississippi", "n"), 0);
-        Check.due("11: unlike at its last letter", searched("mississippi", "issp"), 0);
-        Check.due("11: beyond the last letter", searched("mississippi", "ppii"), 0);
-        patFeedAll(ends, "pp");
+        Check.due("11: the empty one in nothing", Words.found("", ""), 0);
+        Check.due("11: a letter in nothing", Words.found("", "a"), 0);
+        Check.due("11: i", Words.found("mississippi", "i"), 4);
+        Check.due("11: ss", Words.found("mississippi", "ss"), 2);
+        Check.due("11: issi, over itself", Words.found("mississippi", "issi"), 2);
+        Check.due("11: the whole", Words.found("mississippi", "mississippi"), 1);
+        Check.due("11: longer than the text", Words.found("aaa", "aaaa"), 0);
+        Check.due("11: before all", Words.found("mississippi", "a"), 0);
+        Check.due("11: behind all", Words.found("mississippi", "z"), 0);
+        Check.due("11: between", Words.found("mississippi", "n"), 0);
+        Check.due("11: unlike at its last letter", Words.found("mississippi", "issp"), 0);
+        Check.due("11: beyond the last letter", Words.found("mississippi", "ppii"), 0);
+        Words.patFeed(ends, "pp");
         ends.feed(0);
         Check.due("11: not built any more", ends.search(), -1);
         ends.build();
@@ -301,13 +275,13 @@ public final class PromisesTest {
     }
 
     private static void promise12Hit() {
-        TextEnds ends = built("mississippi");
+        TextEnds ends = Words.built("mississippi");
         Check.due("12: before any search", ends.hit(0), -1);
         Check.due("12: search of the empty one", ends.search(), 11);
         Check.due("12: its first", ends.hit(0), 10);
         Check.due("12: its last", ends.hit(10), 2);
         Check.due("12: behind its last", ends.hit(11), -1);
-        patFeedAll(ends, "i");
+        Words.patFeed(ends, "i");
         Check.due("12: search of i", ends.search(), 4);
         int[] due = {10, 7, 4, 1};
         for (int k = 0; k < due.length; k++) {
@@ -317,14 +291,14 @@ public final class PromisesTest {
         for (int k : wrong) {
             Check.due("12: hit(" + k + ")", ends.hit(k), -1);
         }
-        patFeedAll(ends, "z");
+        Words.patFeed(ends, "z");
         Check.due("12: search of iz", ends.search(), 0);
         Check.due("12: none", ends.hit(0), -1);
     }
 
     private static void promise12HitAfterChanges() {
-        TextEnds ends = built("abab");
-        patFeedAll(ends, "b");
+        TextEnds ends = Words.built("abab");
+        Words.patFeed(ends, "b");
         ends.search();
         Check.due("12: hit", ends.hit(0), 3);
         Check.due("12: refused letter of the pattern", ends.patFeed(26), false);
@@ -338,7 +312,7 @@ public final class PromisesTest {
         Check.due("12: searched again", ends.hit(0), 1);
         ends.patClear();
         Check.due("12: pattern cleared", ends.hit(0), -1);
-        patFeedAll(ends, "ba");
+        Words.patFeed(ends, "ba");
         Check.due("12: the same pattern, not searched", ends.hit(0), -1);
         ends.search();
         ends.feed(1);
@@ -351,52 +325,52 @@ public final class PromisesTest {
         Check.due("12: built and searched", ends.hit(0), 1);
         ends.clear();
         Check.due("12: cleared", ends.hit(0), -1);
-        TextEnds empty = built("abab");
+        TextEnds empty = Words.built("abab");
         empty.search();
         empty.patClear();
         Check.due("12: patClear() of an empty pattern", empty.hit(0), -1);
     }
 
     private static void promise13Repeated() {
-        Check.due("13: not built", fed("abab").repeated(), -1);
-        Check.due("13: nothing", built("").repeated(), 0);
-        Check.due("13: one letter", built("a").repeated(), 0);
-        Check.due("13: no letter twice", built("abc").repeated(), 0);
-        Check.due("13: over itself", built("aaaa").repeated(), 3);
-        Check.due("13: mississippi", built("mississippi").repeated(), 4);
-        Check.due("13: abcxabc", built("abcxabc").repeated(), 3);
-        TextEnds ends = built("abab");
+        Check.due("13: not built", Words.fed("abab").repeated(), -1);
+        Check.due("13: nothing", Words.built("").repeated(), 0);
+        Check.due("13: one letter", Words.built("a").repeated(), 0);
+        Check.due("13: no letter twice", Words.built("abc").repeated(), 0);
+        Check.due("13: over itself", Words.built("aaaa").repeated(), 3);
+        Check.due("13: mississippi", Words.built("mississippi").repeated(), 4);
+        Check.due("13: abcxabc", Words.built("abcxabc").repeated(), 3);
+        TextEnds ends = Words.built("abab");
         Check.due("13: abab", ends.repeated(), 2);
         ends.feed(0);
         Check.due("13: not built any more", ends.repeated(), -1);
     }
 
     private static void promise14RepeatedAt() {
-        Check.due("14: not built", fed("abab").repeatedAt(), -1);
-        Check.due("14: nothing", built("").repeatedAt(), -1);
-        Check.due("14: one letter", built("a").repeatedAt(), -1);
-        Check.due("14: no letter twice", built("abc").repeatedAt(), -1);
-        Check.due("14: over itself", built("aaaa").repeatedAt(), 0);
-        Check.due("14: mississippi", built("mississippi").repeatedAt(), 1);
-        Check.due("14: of two the first in the order", built("xyxyzabcab").repeatedAt(), 5);
-        Check.due("14: least of three places", built("zabyabxab").repeatedAt(), 1);
-        Check.due("14: least place not first of its group", built("cabdabbab").repeatedAt(), 1);
-        Check.due("14: a later group does not count", built("bcaxbcyaxzax").repeatedAt(), 2);
-        TextEnds ends = built("abab");
+        Check.due("14: not built", Words.fed("abab").repeatedAt(), -1);
+        Check.due("14: nothing", Words.built("").repeatedAt(), -1);
+        Check.due("14: one letter", Words.built("a").repeatedAt(), -1);
+        Check.due("14: no letter twice", Words.built("abc").repeatedAt(), -1);
+        Check.due("14: over itself", Words.built("aaaa").repeatedAt(), 0);
+        Check.due("14: mississippi", Words.built("mississippi").repeatedAt(), 1);
+        Check.due("14: of two the first in the order", Words.built("xyxyzabcab").repeatedAt(), 5);
+        Check.due("14: least of three places", Words.built("zabyabxab").repeatedAt(), 1);
+        Check.due("14: least place not first of its group", Words.built("cabdabbab").repeatedAt(), 1);
+        Check.due("14: a later group does not count", Words.built("bcaxbcyaxzax").repeatedAt(), 2);
+        TextEnds ends = Words.built("abab");
         Check.due("14: abab", ends.repeatedAt(), 0);
         ends.feed(0);
         Check.due("14: not built any more", ends.repeatedAt(), -1);
     }
 
     private static void promise15Different() {
-        Check.due("15: not built", fed("abab").different(), -1);
-        Check.due("15: nothing", built("").different(), 0);
-        Check.due("15: one letter", built("a").different(), 1);
-        Check.due("15: abc", built("abc").different(), 6);
-        Check.due("15: aaaa", built("aaaa").different(), 4);
-        Check.due("15: abab", built("abab").different(), 7);
-        Check.due("15: mississippi", built("mississippi").different(), 53);
-        TextEnds ends = built("abab");
+        Check.due("15: not built", Words.fed("abab").different(), -1);
+        Check.due("15: nothing", Words.built("").different(), 0);
+        Check.due("15: one letter", Words.built("a").different(), 1);
+        Check.due("15: abc", Words.built("abc").different(), 6);
+        Check.due("15: aaaa", Words.built("aaaa").different(), 4);
+        Check.due("15: abab", Words.built("abab").different(), 7);
+        Check.due("15: mississippi", Words.built("mississippi").different(), 53);
+        TextEnds ends = Words.built("abab");
         ends.feed(0);
         Check.due("15: not built any more", ends.different(), -1);
     }
