@@ -120,8 +120,8 @@ final class PlainTextEnds {
             return -1;
         }
         int longest = 0;
-        for (int i = 1; i < order.size(); i++) {
-            longest = Math.max(longest, lcp(i));
+        for (int letters : lettersThatComeAgain()) {
+            longest = Math.max(longest, letters);
         }
         return longest;
     }
@@ -175,13 +175,27 @@ final class PlainTextEnds {
         return parts.size();
     }
 
-    // All parts of a long text are too many to keep: of each end only those are counted that the end
-    // before it does not begin with.
+    // All parts of a long text are too many to keep: each is counted at the last place where it stands.
     private int differentPartsOfALongText() {
+        int[] again = lettersThatComeAgain();
         int parts = 0;
-        for (int i = 0; i < order.size(); i++) {
-            parts += text.length() - order.get(i) - Math.max(0, lcp(i));
+        for (int place = 0; place < again.length; place++) {
+            parts += text.length() - place - again[place];
         }
         return parts;
+    }
+
+    // For each place the most letters from there on that stand at a later place too; without the
+    // order, so that an error in it does not hide itself.
+    private int[] lettersThatComeAgain() {
+        int[] again = new int[text.length()];
+        int[] alike = new int[text.length() + 1];
+        for (int place = text.length() - 1; place >= 0; place--) {
+            for (int later = place + 1; later < text.length(); later++) {
+                alike[later] = text.charAt(place) == text.charAt(later) ? alike[later + 1] + 1 : 0;
+                again[place] = Math.max(again[place], alike[later]);
+            }
+        }
+        return again;
     }
 }
